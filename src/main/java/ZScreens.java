@@ -50,9 +50,9 @@ public final class ZScreens {
         }
         putWord();
         int lineOfScreen = aboveLower() + lower.line;
-        height = Math.min(n, mostHeight(lines));
+        height = Math.min(n, mostHeight());
         if (version == 3) {
-            blankLines(aboveUpper() + 1, aboveLower());
+            blankUpper();
         }
         int lineOfPane = lineOfScreen - aboveLower();
         if (lineOfPane < 1) {
@@ -304,8 +304,8 @@ public final class ZScreens {
         return lines - aboveLower();
     }
 
-    private int mostHeight(int linesOfScreen) {
-        return linesOfScreen - aboveUpper() - 1;
+    private int mostHeight() {
+        return lines - aboveUpper() - 1;
     }
 
     private int firstLowerLine() {
@@ -327,8 +327,12 @@ public final class ZScreens {
         }
     }
 
-    private void clearUpper() {
+    private void blankUpper() {
         blankLines(aboveUpper() + 1, aboveLower());
+    }
+
+    private void clearUpper() {
+        blankUpper();
         upper.moveTo(1, 1);
     }
 
@@ -424,11 +428,11 @@ public final class ZScreens {
         grid.fill(lines, 1, width, pen.blank());
     }
 
-    private static int colourAfter(int told, int now, int first) {
-        if (told == 0) {
+    private static int colourAfter(int wanted, int now, int first) {
+        if (wanted == 0) {
             return now;
         }
-        return told == 1 ? first : told;
+        return wanted == 1 ? first : wanted;
     }
 
     private static boolean areNumbersOf(int kind, int a, int b) {
@@ -464,11 +468,11 @@ public final class ZScreens {
         }
     }
 
-    private void changeWidth(int newWidth) {
+    private void changeWidth(int widthNow) {
         for (int line = 1; line <= lines; line++) {
-            grid.fill(line, width + 1, newWidth, pen.blank());
+            grid.fill(line, width + 1, widthNow, pen.blank());
         }
-        width = newWidth;
+        width = widthNow;
         lower.moveTo(lower.line, Math.min(lower.column, width + 1));
         upper.moveTo(upper.line, Math.min(upper.column, width + 1));
     }
@@ -477,7 +481,7 @@ public final class ZScreens {
         int linesBefore = lines;
         int lowerBefore = lowerLines();
         lines = linesNow;
-        height = Math.min(height, mostHeight(linesNow));
+        height = Math.min(height, mostHeight());
         int kept = Math.min(lowerBefore, lowerLines());
         // the kept lines only ever move up, so the first of them goes first
         for (int i = 1; i <= kept; i++) {

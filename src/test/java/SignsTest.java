@@ -6,12 +6,14 @@ public final class SignsTest {
         bounds();
         wordsWrapWhole();
         wordsOfWidth();
+        wordsOfWidthFromColumn2();
         spaces();
         returns();
         unbuffered();
         bufferAnswers();
         scrolling();
         scrollingBelowAPane();
+        scrollingTheLargest();
         blankLinesAndColours();
         waiting();
         waitingInOneLine();
@@ -69,6 +71,15 @@ public final class SignsTest {
         Checks.due("as it has WIDTH signs", Checks.signs(x), "abcdefgh|ijklmnop||");
         Checks.due("a 13 then", Checks.tell(x, "\n"), 2);
         Checks.cursors("one line on", x, 3, 1, 1, 1);
+    }
+
+    private static void wordsOfWidthFromColumn2() {
+        ZScreens x = new ZScreens(5, 8, 4);
+        Checks.due("a 32 and eight signs", Checks.tell(x, " abcdefgh"), 1);
+        Checks.due("whole, in the next line", Checks.signs(x), "|abcdefgh||");
+        ZScreens y = new ZScreens(5, 8, 4);
+        Checks.due("a 32 and seven signs", Checks.tell(y, " abcdefg "), 0);
+        Checks.due("whole, in that line", Checks.signs(y), " abcdefg|||");
     }
 
     private static void spaces() {
@@ -140,6 +151,16 @@ public final class SignsTest {
         x.choose(0);
         Checks.tell(x, "a\nb\nc\n");
         Checks.due("the upper pane stays", Checks.signs(x), "up|per|c|");
+    }
+
+    private static void scrollingTheLargest() {
+        ZScreens x = new ZScreens(4, 80, 40);
+        Checks.tell(x, "a\nb ");
+        Checks.due("the last line", x.cell(40, 1, 0), 'b');
+        Checks.due("the one above", x.cell(39, 1, 0), 'a');
+        Checks.due("the one above that", x.cell(38, 1, 0), 32);
+        Checks.tell(x, "\n" + "x".repeat(80));
+        Checks.due("the last cell", x.cell(40, 80, 0), 'x');
     }
 
     private static void blankLinesAndColours() {
