@@ -1,22 +1,31 @@
 /** What every test here uses: answers that are due, texts told sign by sign, whole screens compared. */
 final class Checks {
     private static int wrong = 0;
+    private static String sentence = "";
 
     private Checks() {
     }
 
+    /** The document's sentence that is looked at from here on; told with each wrong answer. */
+    static void about(String words) {
+        sentence = words;
+    }
+
     static void due(String what, long got, long want) {
         if (got != want) {
-            wrong++;
-            System.out.println(what + " answered " + got + ", due is " + want);
+            tellWrong(what + " answered " + got + ", due is " + want);
         }
     }
 
     static void due(String what, String got, String want) {
         if (!got.equals(want)) {
-            wrong++;
-            System.out.println(what + " is\n" + got + "\ndue is\n" + want);
+            tellWrong(what + " is\n" + got + "\ndue is\n" + want);
         }
+    }
+
+    private static void tellWrong(String text) {
+        wrong++;
+        System.out.println(sentence.isEmpty() ? text : "\"" + sentence + "\": " + text);
     }
 
     static void finish() {
@@ -65,6 +74,28 @@ final class Checks {
         return text.toString();
     }
 
+    /** All five parts of a cell, as they are told: sign, style, font, colours. */
+    static String cell(ZScreens x, int line, int column) {
+        StringBuilder text = new StringBuilder();
+        for (int what = 0; what <= 4; what++) {
+            text.append(what == 0 ? "" : " ").append(x.cell(line, column, what));
+        }
+        return text.toString();
+    }
+
+    /** All parts of all cells. */
+    static String cells(ZScreens x) {
+        StringBuilder text = new StringBuilder();
+        for (int line = 1; line <= x.told(0); line++) {
+            for (int column = 1; column <= x.told(1); column++) {
+                for (int what = 0; what <= 4; what++) {
+                    text.append((char) ('!' + x.cell(line, column, what)));
+                }
+            }
+        }
+        return text.toString();
+    }
+
     static void cursors(String what, ZScreens x, int lowerLine, int lowerColumn, int upperLine, int upperColumn) {
         due(what + ": lower line", x.told(4), lowerLine);
         due(what + ": lower column", x.told(5), lowerColumn);
@@ -78,14 +109,7 @@ final class Checks {
         for (int what = 0; what <= 15; what++) {
             text.append(x.told(what)).append(' ');
         }
-        for (int line = 1; line <= x.told(0); line++) {
-            for (int column = 1; column <= x.told(1); column++) {
-                for (int what = 0; what <= 4; what++) {
-                    text.append((char) ('!' + x.cell(line, column, what)));
-                }
-            }
-        }
-        text.append(' ');
+        text.append(cells(x)).append(' ');
         for (int i = 0; i < x.written(-1); i++) {
             text.append(x.written(i)).append(',');
         }
